@@ -538,7 +538,7 @@ public final class Askhouse {
             throws IndexOutOfBoundsException, IllegalArgumentException, IllegalStateException {
         needQuestion(question);
         needTabled(question);
-        if (code < 0 || code >= form.questionAt(question).size() || target < 1 || target > TARGET) {
+        if (code < 0 || code >= form.questionAt(question).size || target < 1 || target > TARGET) {
             throw new IllegalArgumentException("no such code or target");
         }
         if (!tables.hasRoomForRim(question)) {
@@ -988,6 +988,7 @@ public final class Askhouse {
         int kind;
         int a;
         int b;
+        int size;
         int show = NONE;
         int place = NONE;
         boolean isTurned;
@@ -1056,10 +1057,7 @@ public final class Askhouse {
             this.kind = kind;
             this.a = a;
             this.b = b;
-        }
-
-        int size() {
-            return sizeOf(kind, a, b);
+            this.size = sizeOf(kind, a, b);
         }
 
         boolean fits(int code) {
@@ -1074,25 +1072,23 @@ public final class Askhouse {
                 int dayOfMonth = code % 100;
                 return month >= 0 && month < DAYS.length && dayOfMonth >= 1 && dayOfMonth <= DAYS[month];
             }
-            return code < size() && (kind != SEVERAL || Integer.bitCount(code) >= b);
+            return code < size && (kind != SEVERAL || Integer.bitCount(code) >= b);
         }
 
         private boolean fitsPattern(int code) {
             int pattern = a;
             int signs = code;
             for (int k = 0; k < 4; k++) {
-                if (patternOf(signs % 4) != pattern % 3) {
+                int sign = signs % 4;
+                // "7" is a digit, "-" itself, "a" and "z" are small letters.
+                int due = sign == 1 ? 0 : sign == 2 ? 2 : 1;
+                if (due != pattern % 3) {
                     return false;
                 }
                 pattern /= 3;
                 signs /= 4;
             }
             return true;
-        }
-
-        /** 0 for a digit, 1 for a small letter, 2 for "-". */
-        private static int patternOf(int sign) {
-            return sign == 1 ? 0 : sign == 2 ? 2 : 1;
         }
 
         /** A code that fits: what a bare question is answered with, where only that it is matters. */
@@ -1334,7 +1330,7 @@ public final class Askhouse {
                 Question asked = questionAt(k);
                 boolean isInLoop = asked.page == page ? isLooped : pageAt(asked.page).hasLoop();
                 if (!isInLoop && !Question.isFree(asked.kind)) {
-                    rows *= asked.size();
+                    rows *= asked.size;
                 }
             }
             return rows;
@@ -1634,7 +1630,7 @@ public final class Askhouse {
                 int slot = question * SLOTS_EACH;
                 Question asked = form.questionAt(question);
                 boolean isBare = form.isBare(question);
-                int size = asked.size();
+                int size = asked.size;
                 int fillIn = isBare ? asked.fitting() : NONE;
                 for (int k = 0; k < SLOTS_EACH && slot + k < SLOTS; k++) {
                     kept[slot + k] = fillIn;
@@ -1812,9 +1808,12 @@ public final class Askhouse {
                 borrow = rest < 0 ? 1 : 0;
                 limbs[k] = rest + borrow * BASE;
             }
-            trim();
+            while (size > 0 && size <= LIMBS && limbs[size - 1] == 0) {
+                size--;
+            }
         }
 
+        /** Multiplies by a number above 0. */
         void times(int factor) {
             long carry = 0;
             for (int k = 0; k < LIMBS && (k < size || carry > 0); k++) {
@@ -1823,7 +1822,6 @@ public final class Askhouse {
                 carry /= BASE;
                 size = Math.max(size, k + 1);
             }
-            trim();
         }
 
         /** Becomes the product of two other ones. */
@@ -1839,7 +1837,9 @@ public final class Askhouse {
                 }
             }
             size = Math.min(one.size + other.size, LIMBS);
-            trim();
+            while (size > 0 && size <= LIMBS && limbs[size - 1] == 0) {
+                size--;
+            }
         }
 
         void halve() {
@@ -1849,7 +1849,9 @@ public final class Askhouse {
                 limbs[k] = whole / 2;
                 carry = whole % 2;
             }
-            trim();
+            if (size > 0 && size <= LIMBS && limbs[size - 1] == 0) {
+                size--;
+            }
         }
 
         /** Halves what is above 0 until it is odd. */
@@ -1886,12 +1888,6 @@ public final class Askhouse {
                 size = 1;
             }
             limbs[0]++;
-        }
-
-        private void trim() {
-            for (int k = 0; k < LIMBS && size > 0 && size <= LIMBS && limbs[size - 1] == 0; k++) {
-                size--;
-            }
         }
 
         void write(StringBuilder text) {
@@ -1983,29 +1979,21 @@ public final class Askhouse {
             if (top.isZero() || top.isOne() || bottom.isOne() || bottom.isZero()) {
                 return;
             }
-            findOddDivisor();
-            if (!divisor.isOne()) {
-                top.divide(divisor, work, product);
-                bottom.divide(divisor, work, product);
-            }
-        }
-
-        /** Finds the greatest odd number that goes into both; both are above 0. */
-        private void findOddDivisor() {
+            // What goes into both is odd by now, so twos are left out as it is sought.
             divisor.copy(top);
             work.copy(bottom);
             divisor.makeOdd();
             work.makeOdd();
             int order = divisor.against(work);
             for (int k = 0; k < TURNS && order != 0; k++) {
-                if (order > 0) {
-                    divisor.subtract(work);
-                    divisor.makeOdd();
-                } else {
-                    work.subtract(divisor);
-                    work.makeOdd();
-                }
+                Natural greater = order > 0 ? divisor : work;
+                greater.subtract(order > 0 ? work : divisor);
+                greater.makeOdd();
                 order = divisor.against(work);
+            }
+            if (!divisor.isOne()) {
+                top.divide(divisor, work, product);
+                bottom.divide(divisor, work, product);
             }
         }
 
@@ -2155,7 +2143,7 @@ public final class Askhouse {
         boolean isSumTrue() {
             int question = form.firstTabled();
             part.put(0);
-            int size = question == NONE ? 0 : form.questionAt(question).size();
+            int size = question == NONE ? 0 : form.questionAt(question).size;
             for (int code = 0; code < size && code < SIZES; code++) {
                 weighSaying(question, code);
                 part.add(sum);
@@ -2171,8 +2159,8 @@ public final class Askhouse {
 
         /** Counts the cells of two questions; tells how many have both. */
         private int countCells(int first, int second) {
-            height = Math.min(form.questionAt(first).size(), SIZES);
-            width = Math.min(form.questionAt(second).size(), SIZES);
+            height = Math.min(form.questionAt(first).size, SIZES);
+            width = Math.min(form.questionAt(second).size, SIZES);
             Arrays.fill(cells, 0);
             Arrays.fill(sums, 0);
             int many = 0;
@@ -2659,7 +2647,9 @@ public final class Askhouse {
             }
             char sign = takeSign();
             if (sign == 'q') {
-                return readQuestion() && readValue();
+                int question = takeSign() - '0';
+                boolean isThere = question >= 0 && question < form.questionCount;
+                return isThere && Condition.HOWS.indexOf(takeSign()) >= 0 && readValue();
             }
             if (sign == 'g') {
                 return takeSign() == '=' && readValue();
@@ -2679,12 +2669,6 @@ public final class Askhouse {
             at++;
             copy.append(sign);
             return sign;
-        }
-
-        private boolean readQuestion() {
-            int question = takeSign() - '0';
-            boolean isThere = question >= 0 && question < form.questionCount;
-            return isThere && Condition.HOWS.indexOf(takeSign()) >= 0;
         }
 
         private boolean readValue() {
