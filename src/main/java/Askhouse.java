@@ -1747,8 +1747,8 @@ public final class Askhouse {
     /** A whole number from 0 on, of as many digits as weights may need: nine of them a limb. */
     private static final class Natural {
         private static final int BASE = 1000000000;
-        private static final int LIMBS = 64;
-        private static final int BITS = 2000;
+        private static final int LIMBS = 48;
+        private static final int BITS = 1500;
 
         private final int[] limbs = new int[LIMBS];
         private int size;
