@@ -521,6 +521,14 @@ public final class FormTest {
         Check.refused("2560 without it", Check.STATE, house, () -> house.loop(1, NONE, 0));
         Check.refused("most before rows", Check.ARGUMENT, house, () -> house.loop(1, NONE, 1));
         Check.same("another most", house.loop(1, 0, 3), 256);
+        Askhouse most = Check.pages(2);
+        most.question(0, 1, 2, 0);
+        most.question(1, 3, 0, 9);
+        most.loop(1, 0, 1);
+        most.question(0, 0, 5, 0);
+        most.groups(3);
+        Check.same("as many as may be", most.loop(1, NONE, 0), 600);
+        Check.same("and with the loop again", most.loop(1, 0, 4), 60);
     }
 
     // promise 16

@@ -291,7 +291,7 @@ public final class WholeTest {
 
     private static void bare() {
         // Bare questions are answered, and their answers fit: texts, dates, and what is asked in a loop.
-        int[][] kinds = {{0, 2, 0}, {1, 4, 3}, {2, 3, 0}, {3, 5, 7}, {4, 15, 0}, {4, 80, 0}, {5, 0, 0}, {6, 2, 2}};
+        int[][] kinds = {{0, 2, 0}, {1, 4, 3}, {1, 2, 2}, {1, 4, 4}, {1, 3, 0}, {2, 3, 0}, {3, 5, 7}, {4, 15, 0}, {4, 80, 0}, {5, 0, 0}, {6, 2, 2}};
         for (int[] kind : kinds) {
             Askhouse house = Check.pages(2);
             house.question(0, 1, 2, 0);
