@@ -834,7 +834,7 @@ public final class Askhouse {
     }
 
     private boolean isInQuota(int quota, int group) {
-        return quota >= 0 && quota < QUOTAS && form.isSo(form.quotaConditions[quota], walk.standing, group);
+        return quota >= 0 && quota < QUOTAS && form.isSo(form.quotaConditions[quota], walk.standing, group, 0);
     }
 
     /** The answers of somebody that stand: on his walk, or in his record (nobody else has one). */
@@ -1358,39 +1358,25 @@ public final class Askhouse {
             return number;
         }
 
-        /** Whether a condition (or NONE, which always is) is so; works up from the smallest number. */
-        boolean isSo(int condition, int[] standing, int group) {
-            if (condition < 0 || condition >= CONDITIONS) {
+        /** Whether a condition (or NONE, which always is) is so; those that it is made of have smaller numbers. */
+        private boolean isSo(int condition, int[] standing, int group, int depth) {
+            if (condition < 0 || condition >= CONDITIONS || depth > CONDITIONS) {
                 return condition == NONE;
             }
-            int so = 0;
-            for (int k = 0; k <= condition && k < CONDITIONS; k++) {
-                Condition each = conditions[k];
-                boolean isOne = (so >> each.one & 1) != 0;
-                boolean isEachSo;
-                switch (each.sort) {
-                    case Condition.IS:
-                        int slot = each.one * SLOTS_EACH;
-                        isEachSo = slot >= 0 && slot < standing.length && each.isOf(standing[slot]);
-                        break;
-                    case Condition.GROUP:
-                        isEachSo = each.value == group;
-                        break;
-                    case Condition.BOTH:
-                        isEachSo = isOne && (so >> each.other & 1) != 0;
-                        break;
-                    case Condition.EITHER:
-                        isEachSo = isOne || (so >> each.other & 1) != 0;
-                        break;
-                    default:
-                        isEachSo = !isOne;
-                        break;
-                }
-                if (isEachSo) {
-                    so |= 1 << k;
-                }
+            Condition each = conditions[condition];
+            switch (each.sort) {
+                case Condition.IS:
+                    int slot = each.one * SLOTS_EACH;
+                    return slot >= 0 && slot < standing.length && each.isOf(standing[slot]);
+                case Condition.GROUP:
+                    return each.value == group;
+                case Condition.BOTH:
+                    return isSo(each.one, standing, group, depth + 1) && isSo(each.other, standing, group, depth + 1);
+                case Condition.EITHER:
+                    return isSo(each.one, standing, group, depth + 1) || isSo(each.other, standing, group, depth + 1);
+                default:
+                    return !isSo(each.one, standing, group, depth + 1);
             }
-            return (so >> condition & 1) != 0;
         }
     }
 
@@ -1440,7 +1426,7 @@ public final class Askhouse {
                 Question asked = form.questionAt(question);
                 if (asked.page == here) {
                     // Looked at before the answers to the question itself change.
-                    boolean isShown = form.isSo(asked.show, standing, group);
+                    boolean isShown = form.isSo(asked.show, standing, group, 0);
                     for (int k = 0; k < SLOTS_EACH; k++) {
                         int slot = question * SLOTS_EACH + k;
                         if (slot < SLOTS && slot < kept.length) {
@@ -1473,24 +1459,34 @@ public final class Askhouse {
 
         /** The page where a step leads from here, or what hinders it, as go tells that. */
         int way() {
-            for (int slot = 0; slot < SLOTS; slot++) {
-                boolean isHere = form.questionAt(slot / SLOTS_EACH).page == here;
-                if (isHere && isAsked[slot] && standing[slot] < 0) {
-                    return FIRST_MISSING - slot / SLOTS_EACH;
+            for (int question = 0; question < form.questionCount; question++) {
+                if (form.questionAt(question).page == here && isMissing(question)) {
+                    return FIRST_MISSING - question;
                 }
             }
             for (int k = 0; k < form.checkCount && k < CHECKS; k++) {
-                if (form.checkPages[k] == here && !form.isSo(form.checkConditions[k], standing, group)) {
+                if (form.checkPages[k] == here && !form.isSo(form.checkConditions[k], standing, group, 0)) {
                     return FIRST_CHECK - k;
                 }
             }
             Page page = form.pageAt(here);
             for (int k = 0; k < page.jumpCount && k < JUMPS; k++) {
-                if (form.isSo(page.jumpConditions[k], standing, group)) {
+                if (form.isSo(page.jumpConditions[k], standing, group, 0)) {
                     return page.jumpTargets[k];
                 }
             }
             return NO_JUMP;
+        }
+
+        /** Whether a question is asked without an answer that stands, with any of its options. */
+        private boolean isMissing(int question) {
+            for (int k = 0; k < SLOTS_EACH; k++) {
+                int slot = question * SLOTS_EACH + k;
+                if (slot >= 0 && slot < SLOTS && isAsked[slot] && standing[slot] < 0) {
+                    return true;
+                }
+            }
+            return false;
         }
 
         /** What somebody sees who is here. */
