@@ -2194,7 +2194,7 @@ public final class Askhouse {
                 one = other;
                 other = rest;
             }
-            if (one <= 0 || top == 0) {
+            if (one <= 0) {
                 text.append('0');
                 return;
             }

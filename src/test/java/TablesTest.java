@@ -11,6 +11,7 @@ public final class TablesTest {
         weighClose();
         weighTwoRims();
         weighZero();
+        weighLong();
         weight();
         apart();
         apartRefused();
@@ -232,6 +233,47 @@ public final class TablesTest {
         Askhouse three = sent(new int[] {2}, new int[] {0});
         three.rim(0, 0, 99);
         Check.same("sums are as with weights", three.weigh(1) + three.cell(0, 0, NONE, 0, true), "199");
+    }
+
+    /** Weights with many digits, as the oracle tells them. */
+    private static void weighLong() {
+        int[] targets = {97, 89, 83, 79, 73, 71, 67, 61, 59, 53};
+        for (int spread = 0; spread < 24; spread++) {
+            Askhouse house = Check.pages(1);
+            Oracle oracle = new Oracle();
+            oracle.page();
+            oracle.jump(0, NONE, 9);
+            for (int question = 0; question < 2; question++) {
+                house.question(0, 3, 0, 9);
+                oracle.question(0, 3, 0, 9);
+            }
+            for (int person = 0; person < 8; person++) {
+                int first = person / (1 + spread % 4);
+                int second = (person * (1 + spread / 4) + spread) % 7;
+                Check.sendWith(house, person, first, second);
+                oracle.invite(person, 5, 0);
+                oracle.call();
+                oracle.answer(person, 0, NONE, first);
+                oracle.answer(person, 1, NONE, second);
+                oracle.go(person);
+                oracle.send(person);
+            }
+            for (int code = 0; code < 10; code++) {
+                house.rim(spread % 2, code, targets[code]);
+                oracle.rim(spread % 2, code, targets[code]);
+                house.rim(1 - spread % 2, code, targets[(code + 3) % 10] - 40 + spread);
+                oracle.rim(1 - spread % 2, code, targets[(code + 3) % 10] - 40 + spread);
+            }
+            Check.same("steps", house.weigh(1000), oracle.weigh(1000));
+            for (int person = 0; person < 8; person++) {
+                Check.same("weight", house.weight(person), oracle.weight(person));
+            }
+            for (int code = 0; code < 10; code++) {
+                Check.same("sum", house.cell(0, code, NONE, 0, true), oracle.cell(0, code, NONE, 0, true));
+                Check.same("sum", house.cell(1, code, NONE, 0, true), oracle.cell(1, code, NONE, 0, true));
+            }
+            Check.same("sound", house.isSound(), true);
+        }
     }
 
     // promise 42
