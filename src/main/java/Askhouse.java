@@ -2317,7 +2317,6 @@ public final class Askhouse {
         private final Form form;
         /** What was read, written anew. */
         private final StringBuilder copy = new StringBuilder();
-        private final StringBuilder written = new StringBuilder();
         private final int[] read = new int[8];
         private int section;
         private int index;
