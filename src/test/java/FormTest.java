@@ -546,8 +546,10 @@ public final class FormTest {
         Check.refused("900", Check.STATE, house, () -> house.groups(3));
         Check.refused("many before rows", Check.ARGUMENT, house, () -> house.groups(4));
         Check.same("fewer", house.groups(1), 300);
+        Check.same("up to as many as may be", house.groups(2), 600);
+        house.groups(1);
         Check.same("the same is counted, too", house.groups(1), 300);
-        Check.same("version", house.count(4), 9);
+        Check.same("version", house.count(4), 11);
     }
 
     private static void version() {

@@ -147,6 +147,13 @@ public final class TablesTest {
         Check.refused("a third one", Check.STATE, house, () -> house.rim(2, 3, 1));
         Check.refused("code before how many", Check.ARGUMENT, house, () -> house.rim(2, 4, 1));
         Check.same("count", house.count(8), 2);
+        Askhouse looped = Check.pages(2);
+        looped.question(0, 1, 2, 0);
+        looped.question(1, 0, 2, 0);
+        looped.loop(1, 0, 1);
+        Check.refused("in a loop", Check.ARGUMENT, looped, () -> looped.rim(1, 0, 1));
+        looped.loop(1, NONE, 0);
+        Check.same("not in a loop any more", looped.rim(1, 0, 1), 1);
     }
 
     // promise 41

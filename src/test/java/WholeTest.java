@@ -233,6 +233,15 @@ public final class WholeTest {
         Check.same("the end with the 20th step", ending.path(0), "01230123012301230123" + "9");
         Check.same("20 steps", ending.rows(2), 20);
         Check.same("not round", ending.lost(1), "none");
+        // A page that no row comes to but by its 20th step is come to.
+        Askhouse late = counting(false);
+        late.page();
+        late.dropJump(3, 0);
+        late.jump(3, late.not(late.join(0, 2, true)), 0);
+        late.jump(3, NONE, 4);
+        Check.same("page 4 by the 20th step", late.path(0), "01230123012301230123" + "4");
+        Check.same("it is come to", late.reached(4), "g0 0 0 0");
+        Check.same("but round", late.whole(), 2);
     }
 
     /**
