@@ -201,6 +201,18 @@ public final class PeopleTest {
         Check.same("none", house.answer(0, 0, NONE, 0), 2);
         Check.same("both again", house.answer(0, 0, NONE, 3), 4);
         Check.refused("not as on a page without a loop", Check.STATE, house, () -> house.answer(0, 1, NONE, 0));
+        // The last option that there can be.
+        Askhouse four = Check.pages(2);
+        four.question(0, 1, 4, 0);
+        four.question(1, 0, 2, 0);
+        four.loop(1, 0, 4);
+        Check.begin(four, 1);
+        four.answer(0, 0, NONE, 8);
+        four.go(0);
+        Check.same("asked with option 3", four.seen(0), "p1 q1.3=?");
+        Check.same("answered with option 3", four.answer(0, 1, 3, 1), 2);
+        Check.same("it stands", four.stands(0, 1, 3), 1);
+        Check.same("wiped", four.wipe(0, 1, 3), 1);
     }
 
     // promise 20
@@ -503,6 +515,12 @@ public final class PeopleTest {
         Check.same("all were", house.remind(0), 0);
         Check.same("how often", house.ofPerson(6, 4) * 10 + house.ofPerson(0, 4), 22);
         Check.same("not at all", house.ofPerson(2, 4), 0);
+        Askhouse month = Check.pages(1);
+        Check.begin(month, 1);
+        month.pass(29);
+        Check.same("29 days are not 30", month.remind(30), 0);
+        month.pass(1);
+        Check.same("30 days are", month.remind(30), 1);
     }
 
     // promise 27

@@ -242,6 +242,15 @@ public final class WholeTest {
         Check.same("page 4 by the 20th step", late.path(0), "01230123012301230123" + "4");
         Check.same("it is come to", late.reached(4), "g0 0 0 0");
         Check.same("but round", late.whole(), 2);
+        // A code that does not fit there, of the very first question.
+        Askhouse first = new Askhouse();
+        count(first, 1);
+        first.dropJump(3, 0);
+        first.jump(3, first.not(first.join(0, 2, true)), 0);
+        first.jump(3, NONE, 4);
+        Check.same("question 0 does not fit", first.path(0), "01230123012301230123" + "4!");
+        Check.same("question 0 fits", first.path(8), "01230123012301230123" + "4");
+        Check.same("the first round", first.lost(1), "g0 1 0 0 0");
     }
 
     /**
@@ -251,30 +260,37 @@ public final class WholeTest {
      */
     private static Askhouse counting(boolean isStopped) {
         Askhouse house = new Askhouse();
-        for (int k = 0; k < 4; k++) {
+        count(house, 0);
+        if (isStopped) {
+            house.dropJump(0, 0);
+            house.jump(0, house.not(house.join(1, 2, true)), 1);
+        }
+        return house;
+    }
+
+    /** The ring of counting, its questions behind so many that are on a page 4 of their own (where one must be chosen). */
+    private static void count(Askhouse house, int ahead) {
+        for (int k = 0; k < (ahead > 0 ? 5 : 4); k++) {
             house.page();
+        }
+        for (int k = 0; k < ahead; k++) {
+            house.question(4, 1, 2, 1);
         }
         for (int k = 0; k < 3; k++) {
             house.question(0, 0, 2, 0);
         }
         for (int k = 0; k < 3; k++) {
-            house.is(k, 3, 0);
+            house.is(ahead + k, 3, 0);
         }
-        house.show(0, house.not(0));
+        house.show(ahead, house.not(0));
         int either = house.join(0, 1, false);
         int neither = house.not(either);
-        house.show(1, house.join(house.join(0, 1, true), neither, false));
+        house.show(ahead + 1, house.join(house.join(0, 1, true), neither, false));
         int notBoth = house.not(house.join(2, neither, true));
-        house.show(2, house.join(house.join(2, neither, false), notBoth, true));
-        if (isStopped) {
-            house.jump(0, house.not(house.join(1, 2, true)), 1);
-        } else {
-            house.jump(0, NONE, 1);
+        house.show(ahead + 2, house.join(house.join(2, neither, false), notBoth, true));
+        for (int k = 0; k < 4; k++) {
+            house.jump(k, NONE, (k + 1) % 4);
         }
-        house.jump(1, NONE, 2);
-        house.jump(2, NONE, 3);
-        house.jump(3, NONE, 0);
-        return house;
     }
 
     private static void fits() {
