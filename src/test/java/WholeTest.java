@@ -258,7 +258,7 @@ public final class WholeTest {
      * to: CONDITIONS 0 to 2 tell so. That is 6 with the 20th step, for the first time both question 1 and question 2.
      * When stopped, page 0 has no jump that is so then.
      */
-    private static Askhouse counting(boolean isStopped) {
+    static Askhouse counting(boolean isStopped) {
         Askhouse house = new Askhouse();
         count(house, 0);
         if (isStopped) {
