@@ -22,7 +22,7 @@ public final class LinesTest {
     }
 
     /** A form with a line of each sort. */
-    private static Askhouse full() {
+    static Askhouse full() {
         Askhouse house = new Askhouse();
         house.page();
         house.page();
@@ -99,7 +99,7 @@ public final class LinesTest {
     }
 
     /** The fault of a line with a sign in place of another; the line that comes of it is told, to be read along. */
-    private static void fault(Askhouse house, String line, String spoiled, int due) {
+    static void fault(Askhouse house, String line, String spoiled, int due) {
         int which = NONE;
         for (int k = 0; k < house.count(3); k++) {
             which = house.line(k).equals(line) ? k : which;
