@@ -28,6 +28,7 @@ public final class FormEdgesTest {
         bareAllowed();
         leaves();
         sixHundred();
+        loopRows();
         Check.end("FormEdgesTest");
     }
 
@@ -652,5 +653,24 @@ public final class FormEdgesTest {
         Check.sound("600 without the loop", just);
         Check.same("600 with it", just.loop(1, 0, 1) * 10 + just.question(1, 0, 5, 0), 1204);
         Check.refused("3000 without it", Check.STATE, just, () -> just.loop(1, NONE, 0));
+    }
+
+    /** Whichever page has the loop, and whichever page its question is on, what is in the loop makes no rows. */
+    private static void loopRows() {
+        for (int page = 0; page < 6; page++) {
+            Askhouse house = Check.pages(6);
+            int looped = page;
+            house.question(page == 0 ? 5 : 0, 1, 2, 0);
+            house.question(page, 3, 0, 9);
+            Check.same("without a loop", house.groups(3), 120);
+            Check.same("with a loop", house.loop(page, 0, 1), 12);
+            Check.same("groups", house.groups(1) * 100 + house.groups(2), 408);
+            house.question(page, 0, 5, 0);
+            house.question(page == 3 ? 2 : 3, 0, 5, 0);
+            Check.same("another question beside it", house.groups(3), 60);
+            Check.refused("3000 rows", Check.STATE, house, () -> house.loop(looped, NONE, 0));
+            Check.same("rows", house.rows(0), 60);
+            Check.sound("a loop on page " + page, house);
+        }
     }
 }

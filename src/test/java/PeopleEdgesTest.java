@@ -16,6 +16,7 @@ public final class PeopleEdgesTest {
         notFitting();
         typed();
         options();
+        lastOption();
         cursorShort();
         cursorLong();
         keptWhateverBecomes();
@@ -314,6 +315,34 @@ public final class PeopleEdgesTest {
             int wiped = option;
             Check.refused("wiped already", Check.STATE, house, () -> house.wipe(0, 1, wiped));
         }
+    }
+
+    /** The last question with the last option that there can be. */
+    private static void lastOption() {
+        Askhouse house = Check.pages(2);
+        house.question(0, 1, 4, 0);
+        for (int k = 1; k < 5; k++) {
+            house.question(0, 5, 0, 0);
+            house.show(k, house.inGroup(2));
+        }
+        house.question(1, 0, 3, 0);
+        house.loop(1, 0, 4);
+        Check.begin(house, 1);
+        house.answer(0, 0, NONE, 12);
+        house.go(0);
+        Check.same("asked", house.seen(0), "p1 q5.2=? q5.3=?");
+        Check.same("the first one", house.answer(0, 5, 2, 1), 2);
+        Check.same("the last one is missing", house.go(0), -7);
+        Check.same("the last one", house.answer(0, 5, 3, 2), 3);
+        Check.same("seen", house.seen(0), "p1 q5.2=b q5.3=c");
+        Check.same("wiped", house.wipe(0, 5, 3) * 10 + house.ofPerson(0, 7), 22);
+        house.answer(0, 5, 3, 0);
+        Check.same("it stands", house.stands(0, 5, 3) * 10 + house.ofPerson(0, 6), 3);
+        house.go(0);
+        house.send(0);
+        Check.same("record", house.record(0), "g0 0:cd 5.2:b 5.3:a");
+        Check.same("in the record", house.stands(0, 5, 3) * 10 + house.ofPerson(0, 6), 3);
+        Check.sound("the last option", house);
     }
 
     /** CURSOR 0, and a CURSOR with more steps than the WALK has any more. */
