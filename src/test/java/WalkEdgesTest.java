@@ -20,6 +20,7 @@ public final class WalkEdgesTest {
         nowhereOrNot();
         wholeOrder();
         wholeGroups();
+        wholeWithoutRows();
         Check.end("WalkEdgesTest");
     }
 
@@ -473,5 +474,25 @@ public final class WalkEdgesTest {
         Check.same("whole", house.whole(), 0);
         Check.same("steps", house.rows(2) * 10 + house.rows(3), 26);
         Check.sound("groups", house);
+    }
+
+    /** No row fits: PAGE 0 is not come to, so a form of one page is not whole; nothing is lost in it either. */
+    private static void wholeWithoutRows() {
+        for (int pages = 1; pages <= 6; pages++) {
+            Askhouse house = Check.pages(pages);
+            house.question(0, 1, 2, 2);
+            Check.same("one of four fits", house.rows(1) * 10 + house.whole(), 10);
+            house.check(0, house.not(house.is(0, 3, 0)));
+            Check.same("none fits", house.rows(1), 0);
+            Check.same("not come to", house.whole(), 3);
+            Check.same("by none", house.reached(0) + house.reached(pages - 1), "nonenone");
+            Check.same("nothing lost", house.lost(0) + house.lost(1), "nonenone");
+            Check.same("nothing ends", house.rows(2) + house.rows(3), 0);
+            Check.sound("no row fits", house);
+            // Without a jump, too: a row that does not fit leads not nowhere.
+            house.dropJump(0, 0);
+            Check.same("without a jump", house.whole() + house.lost(0), "3none");
+            Check.same("its path", house.path(3), "0!");
+        }
     }
 }
