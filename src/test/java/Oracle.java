@@ -23,6 +23,7 @@ final class Oracle {
         int show = NONE;
         int place = NONE;
         boolean turned;
+        int fitting;
     }
 
     static final class P {
@@ -521,7 +522,7 @@ final class Oracle {
         return people[person];
     }
 
-    private int howMany(int state) {
+    int howMany(int state) {
         return (int) Arrays.stream(people).filter(h -> h.state == state).count();
     }
 
@@ -787,6 +788,14 @@ final class Oracle {
         return rows;
     }
 
+    /** The first code that fits, sought once, as neither kind nor A nor B ever change. */
+    private static int fitting(Q q) {
+        while (text(q, q.fitting) == null) {
+            q.fitting++;
+        }
+        return q.fitting;
+    }
+
     private Row row(int[] combo) {
         Row row = new Row();
         row.text = "g" + combo[0];
@@ -795,12 +804,8 @@ final class Oracle {
             int code = combo[q + 1];
             row.text += " " + (code == NONE ? "-" : "" + code);
             if (code == NONE) {
-                int fitting = 0;
-                while (text(questions.get(q), fitting) == null) {
-                    fitting++;
-                }
                 for (int option = 0; option < 5; option++) {
-                    kept.put(q * 10 + option, fitting);
+                    kept.put(q * 10 + option, fitting(questions.get(q)));
                 }
             } else {
                 kept.put(q * 10, code);

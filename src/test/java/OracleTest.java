@@ -1,28 +1,27 @@
-import java.lang.reflect.InvocationTargetException;
-import java.lang.reflect.Method;
 import java.util.ArrayList;
-import java.util.Arrays;
 import java.util.HashMap;
 import java.util.List;
 import java.util.Map;
 
 /**
  * Runs of calls made up by a fixed sequence of numbers, on Askhouse and on the Oracle side by side: each answer, each
- * exception, and, every now and then, all that can be asked must be the same.
+ * exception, and, every now and then, all that can be asked must be the same. Beside them, runs that go up to the 512th
+ * call, with the form changed while people are under way and after some have sent.
  */
 public final class OracleTest {
     private static final int NONE = -1;
     private static final int RUNS = 160;
-
-    private static final Map<String, Method> CALLS = methodsOf(Askhouse.class);
-    private static final Map<String, Method> ORACLE_CALLS = methodsOf(Oracle.class);
+    private static final int LONG_RUNS = 100;
+    /** What an object is promised to be used for. */
+    private static final int PROMISED = 512;
 
     private final long seed;
     private long state;
-    private final Askhouse house = new Askhouse();
-    private final Oracle oracle = new Oracle();
-    private final List<String> told = new ArrayList<>();
-    private int wrong;
+    private final Beside beside = new Beside();
+    private final Oracle oracle = beside.oracle;
+    private int limit = Integer.MAX_VALUE;
+    /** How often the form was changed with somebody under way and somebody having sent. */
+    private int lateChanges;
 
     private OracleTest(long seed) {
         this.seed = seed;
@@ -32,39 +31,42 @@ public final class OracleTest {
     public static void main(String[] args) {
         int first = args.length > 0 ? Integer.parseInt(args[0]) : 1;
         int last = args.length > 1 ? Integer.parseInt(args[1]) : RUNS;
+        int lastLong = args.length > 1 ? last : LONG_RUNS;
         int wrong = 0;
+        int lateChanges = 0;
         Map<String, Integer> seen = new HashMap<>();
-        int longest = 0;
-        for (int seed = first; seed <= last && wrong < 5; seed++) {
-            OracleTest run = new OracleTest(seed);
-            run.play();
-            wrong += run.wrong;
-            for (int k = 0; args.length > 2 && k < run.told.size(); k++) {
-                String line = run.told.get(k);
-                longest = Math.max(longest, line.startsWith("weight") ? line.length() : 0);
-                String key = line.replaceAll("\\(.*\\) -> ", " ").replaceAll("throws\\.", "!").replaceAll(" ([^!-]|-\\d{4}).*", " answers");
-                seen.merge(key, 1, Integer::sum);
+        for (int seed = first; seed <= Math.max(last, lastLong) && wrong < 5; seed++) {
+            if (seed <= last) {
+                OracleTest run = new OracleTest(seed);
+                run.play();
+                wrong += run.beside.isSame ? 0 : 1;
+                note(seen, run);
+            }
+            if (seed <= lastLong) {
+                OracleTest run = new OracleTest(seed);
+                run.playLong();
+                wrong += run.beside.isSame && run.beside.told.size() == PROMISED ? 0 : 1;
+                lateChanges += run.lateChanges;
+                note(seen, run);
             }
         }
         if (args.length > 2) {
-            System.out.println("longest weight line " + longest);
             seen.entrySet().stream().sorted(Map.Entry.comparingByKey()).forEach(System.out::println);
+            System.out.println(lateChanges + " late changes in the long runs");
         }
-        System.out.println(wrong == 0 ? "as the oracle says" : "not as the oracle says");
-        if (wrong != 0) {
+        boolean areLate = lateChanges > 10 * (lastLong - first + 1);
+        System.out.println(wrong == 0 ? areLate ? "as the oracle says" : "too few late changes" : "not as the oracle says");
+        if (wrong != 0 || !areLate) {
             System.exit(1);
         }
     }
 
-    private static Map<String, Method> methodsOf(Class<?> type) {
-        Map<String, Method> methods = new HashMap<>();
-        for (Method method : type.getDeclaredMethods()) {
-            if (!methods.containsKey(method.getName()) || method.getModifiers() == 0) {
-                method.setAccessible(true);
-                methods.put(method.getName(), method);
-            }
+    /** How often each call answered what: a number, an exception, or something. */
+    private static void note(Map<String, Integer> seen, OracleTest run) {
+        for (String line : run.beside.told) {
+            String key = line.replaceAll("\\(.*\\) -> ", " ").replaceAll("throws\\.", "!").replaceAll(" ([^!-]|-\\d{4}).*", " answers");
+            seen.merge(key, 1, Integer::sum);
         }
-        return methods;
     }
 
     // ---- numbers
@@ -112,7 +114,7 @@ public final class OracleTest {
         int shape = below(4);
         int length = between(60, 300);
         boolean isEarly = shape == 3;
-        for (int k = 0; k < length && wrong == 0; k++) {
+        for (int k = 0; k < length && isOpen(); k++) {
             boolean isForm = isEarly ? oneIn(2) : k < 15 + length / 6 || oneIn(12);
             if (isForm) {
                 form(shape);
@@ -130,6 +132,68 @@ public final class OracleTest {
 
     /** A form that leads to the end, with everybody invited, called, and mostly sending: for the tables. */
     private void playCrowd() {
+        makeForm();
+        for (int k = 0; k < 8; k++) {
+            same("invite", k, between(0, 9), between(0, 99));
+        }
+        int busy = between(4, 8);
+        for (int k = 0; k < busy; k++) {
+            same("call");
+        }
+        for (int round = 0; round < 25 && isOpen(); round++) {
+            for (int person = 0; person < 8; person++) {
+                moveOn(person);
+            }
+            if (oneIn(12)) {
+                form(0);
+            }
+            for (int k = 0; k < 3; k++) {
+                look();
+            }
+            if (round > 4) {
+                weigh();
+            }
+            if (oneIn(5)) {
+                same("least", between(1, 3));
+            }
+            if (oneIn(5)) {
+                same("pass", between(1, 9));
+                same("remind", between(0, 9));
+            }
+        }
+        compareAll();
+    }
+
+    /** As many calls as are promised: people come, move on and send one by one, while the form goes on changing. */
+    private void playLong() {
+        limit = PROMISED;
+        makeForm();
+        while (isOpen()) {
+            switch (below(10)) {
+                case 0: case 1: case 2: case 3:
+                    come(below(8));
+                    break;
+                case 4: case 5:
+                    form(below(4));
+                    break;
+                case 6:
+                    person();
+                    break;
+                case 7:
+                    look();
+                    break;
+                case 8:
+                    weigh();
+                    break;
+                default:
+                    same("isSound");
+                    same("digest");
+                    break;
+            }
+        }
+    }
+
+    private void makeForm() {
         int pages = between(1, 3);
         for (int k = 0; k < pages; k++) {
             same("page");
@@ -156,52 +220,50 @@ public final class OracleTest {
         for (int k = 0; k < between(0, 3); k++) {
             form(0);
         }
-        for (int k = 0; k < 8; k++) {
-            same("invite", k, between(0, 9), between(0, 99));
+    }
+
+    /** Invites or calls, or moves on whoever has begun; who did all that is the time for another form. */
+    private void come(int person) {
+        switch (oracle.ofPerson(person, 0)) {
+            case 0:
+                same("invite", person, between(0, 9), between(0, 99));
+                break;
+            case 1:
+                same("call");
+                break;
+            case 2:
+                moveOn(person);
+                break;
+            default:
+                form(below(4));
+                break;
         }
-        int busy = between(4, 8);
-        for (int k = 0; k < busy; k++) {
-            same("call");
-        }
-        for (int round = 0; round < 25; round++) {
-            for (int person = 0; person < 8; person++) {
-                for (int key : oracle.askedOf(person)) {
-                    if (oracle.stands(person, key / 10, key % 10 - 1) == NONE || oneIn(20)) {
-                        Oracle.Q question = oracle.questions.get(key / 10);
-                        int code = below(question.kind == 5 ? 1300 : question.kind == 4 ? 256 : 3);
-                        for (int k = 0; k < 5000 && Oracle.text(question, code) == null; k++) {
-                            code = below(question.kind == 5 ? 1300 : question.kind == 4 ? 256 : 16);
-                        }
-                        same("answer", person, key / 10, key % 10 - 1, code);
-                    }
+    }
+
+    /** Somebody answers what he is asked, and goes on or sends. */
+    private void moveOn(int person) {
+        for (int key : oracle.askedOf(person)) {
+            if (oracle.stands(person, key / 10, key % 10 - 1) == NONE || oneIn(20)) {
+                Oracle.Q question = oracle.questions.get(key / 10);
+                int code = below(question.kind == 5 ? 1300 : question.kind == 4 ? 256 : 3);
+                for (int k = 0; k < 5000 && Oracle.text(question, code) == null; k++) {
+                    code = below(question.kind == 5 ? 1300 : question.kind == 4 ? 256 : 16);
                 }
-                if (oneIn(9)) {
-                    same("back", person);
-                }
-                if (oneIn(9)) {
-                    same("wipe", person, below(questions), oneIn(3) ? between(0, 3) : NONE);
-                }
-                same(oracle.ofPerson(person, 1) == 9 && !oneIn(3) ? "send" : "go", person);
-            }
-            if (oneIn(12)) {
-                form(0);
-            }
-            for (int k = 0; k < 3; k++) {
-                look();
-            }
-            if (round > 4) {
-                same("rim", any(questions), between(0, 2), between(1, oneIn(2) ? 9 : 99));
-                same("weigh", oneIn(2) ? between(1, 3) : between(1, 1000));
-            }
-            if (oneIn(5)) {
-                same("least", between(1, 3));
-            }
-            if (oneIn(5)) {
-                same("pass", between(1, 9));
-                same("remind", between(0, 9));
+                same("answer", person, key / 10, key % 10 - 1, code);
             }
         }
-        compareAll();
+        if (oneIn(9)) {
+            same("back", person);
+        }
+        if (oneIn(9)) {
+            same("wipe", person, below(Math.max(1, oracle.questions.size())), oneIn(3) ? between(0, 3) : NONE);
+        }
+        same(oracle.ofPerson(person, 1) == 9 && !oneIn(3) ? "send" : "go", person);
+    }
+
+    private void weigh() {
+        same("rim", any(oracle.questions.size()), between(0, 2), between(1, oneIn(2) ? 9 : 99));
+        same("weigh", oneIn(2) ? between(1, 3) : between(1, 1000));
     }
 
     private void form(int shape) {
@@ -428,32 +490,21 @@ public final class OracleTest {
 
     // ---- side by side
 
-    private void same(String name, Object... args) {
-        if (wrong > 0) {
-            return;
-        }
-        Object due = outcome(ORACLE_CALLS.get(name), oracle, args);
-        Object got = outcome(CALLS.get(name), house, args);
-        told.add(name + Arrays.toString(args).replace('[', '(').replace(']', ')') + " -> " + due);
-        if (!due.equals(got)) {
-            wrong++;
-            for (String line : told.subList(Math.max(0, told.size() - 400), told.size())) {
-                System.out.println(line);
-            }
-            System.out.println("seed " + seed + ": " + name + Arrays.toString(args) + " answered " + got + ", due is " + due);
-        }
+    private boolean isOpen() {
+        return beside.isSame && beside.told.size() < limit;
     }
 
-    private static Object outcome(Method method, Object on, Object[] args) {
-        try {
-            return method.invoke(on, args);
-        } catch (InvocationTargetException e) {
-            if (!(e.getCause() instanceof RuntimeException)) {
-                throw new AssertionError(e.getCause());
-            }
-            return "throws." + e.getCause().getClass().getSimpleName();
-        } catch (IllegalAccessException e) {
-            throw new AssertionError(e);
+    private void same(String name, Object... args) {
+        if (!isOpen()) {
+            return;
+        }
+        int version = oracle.version;
+        beside.ask(name, args);
+        if (oracle.version > version && oracle.count(5) > 0 && oracle.howMany(2) > 0) {
+            lateChanges++;
+        }
+        if (!beside.isSame) {
+            beside.tell("seed " + seed);
         }
     }
 }
