@@ -13,8 +13,6 @@ import java.util.Map;
 import java.util.regex.Matcher;
 import java.util.regex.Pattern;
 import java.util.stream.Stream;
-import javax.tools.JavaCompiler;
-import javax.tools.ToolProvider;
 
 /**
  * README.md: the calls of its examples are made, as the Java that stands there, and each answer that it tells is compared
@@ -187,10 +185,10 @@ public final class ReadmeTest {
     private static void compileAndCall(Path build, String source) throws Exception {
         Path file = build.resolve("ReadmeExamples.java");
         Files.writeString(file, source);
-        JavaCompiler compiler = ToolProvider.getSystemJavaCompiler();
+        // The same javac as that of .ci/run; the java that runs this may come without a compiler.
         String classes = System.getProperty("java.class.path");
-        int result = compiler == null ? -1 : compiler.run(null, null, null, "-nowarn", "-cp", classes, "-d", build.toString(),
-            file.toString());
+        int result = new ProcessBuilder("javac", "-nowarn", "-cp", classes, "-d", build.toString(), file.toString())
+            .inheritIO().start().waitFor();
         Check.same("the examples are Java", result, 0);
         if (result != 0) {
             return;
